@@ -2,6 +2,7 @@
 public final class ImageTest {
     public static void main(String[] args) {
         allThatIsKept();
+        everyOne();
         allThatIsNot();
         count();
         Due.end("ImageTest");
@@ -72,6 +73,36 @@ public final class ImageTest {
         Due.is("its place", x.at(2, 1), 0);
         Due.is("it is not back", x.at(2, 2), 0);
         Due.is("the next way's number", Due.way(x, "many 8"), 2);
+    }
+
+    /** Six maids and five pilgrims with rows, marks and places of their own. */
+    private static void everyOne() {
+        MilestoneMaids x = new MilestoneMaids();
+        for (int i = 0; i < 6; i++) {
+            x.maid(6, 9 - i);
+            for (int part = 0; part < 4; part++) x.row(i, part, (i + part) % 9 + 1);
+        }
+        for (int p = 0; p < 5; p++) x.pilgrim(40 * p + 3);
+        for (int i = 0; i < 5; i++) x.see(40 + i, 90 + i);
+        x.pass(2);
+        x.start(4);
+        int[] marks = new int[5];
+        for (int p = 0; p < 5; p++) marks[p] = x.at(p, 0);
+        x.image();
+        for (int i = 0; i < 6; i++) {
+            for (int part = 0; part < 4; part++) x.row(i, part, 0);
+        }
+        for (int p = 0; p < 5; p++) x.mark(p, 255);
+        x.pass(9);
+        x.undo();
+        for (int i = 0; i < 6; i++) {
+            Due.is("v of " + i, x.of(i, 1), 9 - i);
+            for (int part = 0; part < 4; part++) Due.is("row of " + i, x.row(i, part, 0), (i + part) % 9 + 1);
+        }
+        for (int p = 0; p < 5; p++) {
+            Due.is("marks of " + p, x.at(p, 0), marks[p]);
+            Due.is("place of " + p, x.at(p, 1), p == 4 ? 0 : 2);
+        }
     }
 
     private static void allThatIsNot() {

@@ -107,6 +107,19 @@ public final class LampsTest {
         }
     }
 
+    private static MilestoneMaids turners() {
+        MilestoneMaids x = new MilestoneMaids();
+        x.maid(2, 0);
+        x.maid(2, 0);
+        return x;
+    }
+
+    private static MilestoneMaids setters() {
+        MilestoneMaids x = new MilestoneMaids();
+        for (int v = 0; v < 6; v++) x.maid(1, v);
+        return x;
+    }
+
     private static void doused() {
         MilestoneMaids x = new MilestoneMaids();
         x.maid(1, 0);
@@ -125,6 +138,8 @@ public final class LampsTest {
         Due.is("doused(256, 0)", x.doused(256, 0), -2);
         Due.is("doused(0, -1)", x.doused(0, -1), -2);
         Due.is("the lamps stay", x.told(2), 8);
+        Due.is("of several the least", turners().doused(1, 2), 1);
+        Due.is("all six", setters().doused(0, 0), 63);
         // Two with greater bits are fewer than three with lesser.
         MilestoneMaids y = new MilestoneMaids();
         y.maid(1, 0);

@@ -16,6 +16,8 @@ public final class PeopleTest {
         MilestoneMaids x = new MilestoneMaids();
         int[] counts = {0, 0, 0, 0, 0, 0, 0, 0};
         for (int what = 0; what < 8; what++) Due.is("new: count " + what, x.count(what), counts[what]);
+        Due.is("new: IN", x.told(3), 0);
+        Due.is("new: BACK", x.told(4), 0);
         Due.is("new: MANY", x.told(1), 9);
         Due.is("new: MOST", x.told(5), -5);
         Due.is("new: day", x.told(0), 0);
@@ -58,6 +60,7 @@ public final class PeopleTest {
         Due.is("at(4, 1)", x.at(4, 1), 0);
         Due.is("at(4, 2)", x.at(4, 2), 0);
         Due.is("at(4, 3), no maids", x.at(4, 3), 251);
+        Due.is("no maids: all are in", x.told(3), 5);
         Due.is("at(5, 0)", x.at(5, 0), -1);
         Due.is("at(-1, 0)", x.at(-1, 0), -1);
         Due.is("at(0, 4)", x.at(0, 4), -1);

@@ -118,11 +118,14 @@ public final class SeenTest {
         MilestoneMaids x = new MilestoneMaids();
         Due.is("odds, no maids", x.odds(0, 0, 1), MilestoneMaids.NO);
         x.maid(1, 0);
+        Due.is("odds(0, 0, 0) of one maid", x.odds(0, 0, 0), 1);
+        Due.is("odds(0, 1, 0) of one maid", x.odds(0, 1, 0), 0);
         x.maid(1, 0);
         x.maid(1, 1);
         x.maid(1, 2);
         Due.is("odds(0, 7, 0)", x.odds(0, 7, 0), 1);
         Due.is("odds(0, 7, 1)", x.odds(0, 7, 1), 2);
+        Due.is("odds(0, 6, 0)", x.odds(0, 6, 0), 0);
         Due.is("odds(0, 5, 0)", x.odds(0, 5, 0), 1);
         Due.is("odds(0, 5, 1)", x.odds(0, 5, 1), 4);
         Due.is("odds(0, 0, 0)", x.odds(0, 0, 0), 0);
@@ -137,6 +140,11 @@ public final class SeenTest {
         Due.is("odds(0, 0, 2)", x.odds(0, 0, 2), MilestoneMaids.NO);
         Due.is("odds(0, 0, -1)", x.odds(0, 0, -1), MilestoneMaids.NO);
         Due.is("the lamps stay", x.told(2), 8);
+        MilestoneMaids first = new MilestoneMaids();
+        first.maid(1, 0);
+        first.maid(2, 0);
+        first.maid(2, 0);
+        Due.is("the first one's lamp is out: one of three", first.odds(0, 0, 1), 3);
     }
 
     private static void mean() {
@@ -154,6 +162,12 @@ public final class SeenTest {
         x.pilgrim(255);
         Due.is("mean(0) of 14 by four", x.mean(0), 7);
         Due.is("mean(1) of 14 by four", x.mean(1), 2);
+        x.mark(0, 31);
+        x.mark(3, 1);
+        Due.is("mean(0) of 12 by four, the first with five", x.mean(0), 3);
+        x.pilgrim(1);
+        Due.is("mean(0) of 13 by five", x.mean(0), 13);
+        Due.is("mean(1) of 13 by five", x.mean(1), 5);
         Due.is("mean(2)", x.mean(2), MilestoneMaids.NO);
         Due.is("mean(-1)", x.mean(-1), MilestoneMaids.NO);
     }

@@ -26,8 +26,10 @@ public final class TapesTest {
         Due.is("tape(0, 0, 60)", x.tape(0, 0, 60), 1);
         Due.is("item(0, 59, 5)", x.item(0, 59, 5), 1);
         Due.is("read(0, 59)", x.read(0, 59), 5);
+        x.item(0, 0, 6);
         Due.is("tape(0, 0, 60) again", x.tape(0, 0, 60), 1);
         Due.is("all 0", x.read(0, 59), 0);
+        Due.is("all 0 from the first on", x.read(0, 0), 0);
         x.item(0, 3, 5);
         Due.is("tape(0, 1, 0)", x.tape(0, 1, 0), 1);
         Due.is("a row of none", x.read(0, 0), NO);
@@ -36,6 +38,7 @@ public final class TapesTest {
         Due.is("all 0 of another sort", x.read(0, 3), 0);
         Due.is("tape(0, -1, 99)", x.tape(0, -1, 99), 1);
         Due.is("nothing there", x.read(0, 3), NO);
+        Due.is("nothing there at all", x.read(0, 0), NO);
         Due.is("nothing there", x.item(0, 3, 1), -11);
         Due.is("tape(0, -1, -99)", x.tape(0, -1, -99), 1);
     }

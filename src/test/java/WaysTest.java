@@ -7,6 +7,8 @@ public final class WaysTest {
         clauses();
         judgements();
         tests();
+        twoDigits();
+        oneBehindAnother();
         joints();
         sixWays();
         told();
@@ -88,6 +90,9 @@ public final class WaysTest {
         fault("many 123", 7);
         fault("many 1 l=1", 6);
         fault("many 12l", 7);
+        fault("many 1:", 6);
+        fault("many 1/", 6);
+        fault("many :", 5);
         fault("Many 1", 0);
         fault("many 1\n", 6);
         holds("many 1");
@@ -123,6 +128,12 @@ public final class WaysTest {
         MilestoneMaids x = new MilestoneMaids();
         Due.way(x, ten.toString());
         Due.is("the last many holds", x.told(1), 9);
+        Due.way(x, "many 12;heed 1 l=1");
+        Due.is("two digits", x.told(1), 12);
+        Due.way(x, "many 90");
+        Due.is("two digits, 90", x.told(1), 90);
+        Due.way(x, "many 05");
+        Due.is("two digits, 05", x.told(1), 5);
         StringBuilder hundred = new StringBuilder("heed 1 l=1");
         for (int i = 0; i < 22; i++) hundred.append("|l=1");
         Due.is("98 signs", hundred.length(), 98);
@@ -151,6 +162,33 @@ public final class WaysTest {
         Due.is("heed by what does not hold", heeded("heed 9 m=1;deaf 1 m=0", 0), 0);
         Due.is("two digits", heeded("heed 10 m=0;deaf 11 m=0", 0), 0);
         Due.is("two digits, one less", heeded("heed 11 m=0;deaf 11 m=0", 0), 1);
+    }
+
+    /** Each test with a number of two digits, which hold or not as the number is above or below. */
+    private static void twoDigits() {
+        for (int i = 0; i < 6; i++) {
+            char letter = "lkvmfd".charAt(i);
+            for (int n = 10; n < 100; n++) {
+                Due.is(letter + "<" + n, heeded("deaf 1 " + letter + "<" + n, 0), 0);
+                Due.is(letter + "=" + n, heeded("deaf 1 " + letter + "=" + n, 0), 1);
+                Due.is(letter + ">" + n, heeded("deaf 1 " + letter + ">" + n + "&l=0", 0), 1);
+                Due.is("l=0|" + letter + ">" + n, heeded("deaf 1 l=0|" + letter + ">" + n, 0), 0);
+            }
+        }
+    }
+
+    /** A way holds nothing of those that were read ahead of it. */
+    private static void oneBehindAnother() {
+        MilestoneMaids x = new MilestoneMaids();
+        x.maid(1, 0);
+        Due.is("deaf", Due.way(x, "deaf 3 m=0"), 0);
+        Due.is("deaf to 0", x.passes(0, 1, 0), 0);
+        Due.is("a fault", Due.way(x, "deaf 3 m>0;heed"), -25);
+        Due.is("deaf to 0 still", x.passes(0, 1, 0), 0);
+        Due.is("heeds 2 still", x.passes(0, 1, 2), 3);
+        Due.is("deaf to another", Due.way(x, "deaf 1 m=1"), 1);
+        Due.is("heeds 0 now", x.passes(0, 1, 0), 1);
+        Due.is("deaf to 2 now", x.passes(0, 1, 2), 2);
     }
 
     private static void tests() {
