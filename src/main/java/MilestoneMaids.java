@@ -840,14 +840,22 @@ public final class MilestoneMaids {
             } else if (depth >= NESTING_LIMIT) {
                 isWrong = true;
             } else if (sign == '!') {
-                readSign('!');
-                readPart(depth + 1);
-                addStep(Way.NOT, 0, 0);
+                readNot(depth + 1);
             } else {
-                readSign('(');
-                readEither(depth + 1);
-                readSign(')');
+                readBracket(depth + 1);
             }
+        }
+
+        private void readNot(int depth) {
+            readSign('!');
+            readPart(depth);
+            addStep(Way.NOT, 0, 0);
+        }
+
+        private void readBracket(int depth) {
+            readSign('(');
+            readEither(depth);
+            readSign(')');
         }
 
         private void readTest() {
@@ -925,11 +933,13 @@ public final class MilestoneMaids {
                 return;
             }
             for (int maid = 0; maid < stage.maids; maid++) {
-                if ((used & 1 << maid) == 0) {
-                    tried[depth] = maid;
-                    goOn(stage, depth + 1, used | 1 << maid, stage.passedOnToday(maid, to));
-                }
+                if ((used & 1 << maid) == 0) goOnBy(maid, stage, depth, used, to);
             }
+        }
+
+        private void goOnBy(int maid, Stage stage, int depth, int used, int to) {
+            tried[depth] = maid;
+            goOn(stage, depth + 1, used | 1 << maid, stage.passedOnToday(maid, to));
         }
 
         private void take(int n) {
